@@ -363,6 +363,12 @@ public final class PromisesTest {
         y.pass(1);
         due("pass(1) with a rain of 5", y.pass(1), 10);
         due("pass(1) with a rain of 6", y.pass(1), 0);
+        y.set(4, 0, 30);
+        y.spill(4, 24);
+        due("pass(1) with 30 walkers and a mud of 17", y.pass(1), 0);
+        due("pass(1) with 30 walkers and a mud of 4", y.pass(1), 15);
+        y.spill(4, 20);
+        due("pass(1) with 30 walkers and a mud of 11", y.pass(1), 6);
     }
 
     private static void promise11Pitches() {
@@ -514,6 +520,9 @@ public final class PromisesTest {
         x.set(3, 0, 13);
         due("advise(0, 10), of several the smallest", x.advise(0, 10), 3);
         due("advise(0, 1) earns nothing anywhere", x.advise(0, 1), -1);
+        x.set(0, 0, 13);
+        due("advise(0, 10), crossing 0", x.advise(0, 10), 0);
+        x.set(0, 0, 10);
         x.set(3, 0, 10);
         due("digest() after advise", x.digest() == before ? 1 : 0, 1);
         x.pass(1);
